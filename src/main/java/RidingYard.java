@@ -12,7 +12,7 @@ public final class RidingYard {
     private static final int FAULTS = 6;
     private static final int COUNTS_AHEAD_OF_FAULTS = 5;
     private static final int MOST_MADE = 60, MOST_TASKS = 20, MOST_PUT_DOWN = 40;
-    private static final int MOST_PLACES = 8, MOST_INTS = 12, MOST_ROWS = 6;
+    private static final int MOST_PLACES = 8, MOST_INTS = 12, MOST_ROWS = 6, MOST_ROW_INTS = 6;
     private static final int NUMBERS_OF_TASK = 4;
 
     private final Horse[] stalls = new Horse[STALLS];
@@ -463,7 +463,7 @@ public final class RidingYard {
         if (rows < 0 || ints < 0) {
             return SIZE;
         }
-        tableAt(a).set(Math.min(rows, MOST_ROWS), Math.min(ints, MOST_ROWS));
+        tableAt(a).set(Math.min(rows, MOST_ROWS), Math.min(ints, MOST_ROW_INTS));
         return comeTo(1);
     }
 
@@ -639,7 +639,7 @@ public final class RidingYard {
     }
 
     private static final class Table {
-        final int[][] rows = new int[MOST_ROWS][MOST_ROWS];
+        final int[][] rows = new int[MOST_ROWS][MOST_ROW_INTS];
         final boolean[] rowThere = new boolean[MOST_ROWS];
         boolean there;
         int height;

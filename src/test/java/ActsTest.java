@@ -310,6 +310,12 @@ public final class ActsTest {
         Due.fails(x, Due.RAISED, 17, -1, 0, 0);
         Due.due("came()", x.came(), 66);
         Due.fails(x, Due.RAISED, 17, 11, 0, 0);
+        // Acts alone could all mean the same wrong place, so empty(), which takes no modulo, says which one it was.
+        for (int sort = 2; sort <= 4; sort++) {
+            int last = sort == 2 ? 5 : 3;
+            Due.due("empty(" + sort + ", 0)", x.empty(sort, 0), 0);
+            Due.due("empty(" + sort + ", " + last + ")", x.empty(sort, last), 1);
+        }
     }
 
     private static void cameStays() {
