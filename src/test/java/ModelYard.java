@@ -3,7 +3,8 @@ import java.util.List;
 
 /**
  * The document told a second time, with the machine's own exceptions as faults and real arrays that may be null.
- * It shares no line of thought with the class under test, so that a slip in one of them shows against the other.
+ * It is built otherwise than the class under test, so that a slip in one of them shows against the other; where the
+ * document itself was misread, both would be wrong alike.
  */
 final class ModelYard {
     static class Worker {
