@@ -29,6 +29,7 @@ public final class RidingYard {
     private int taskCount;
     private final int[] tasksPutDown = new int[MOST_PUT_DOWN];
     private final int[] faultsPutDown = new int[MOST_PUT_DOWN];
+    private int putDownKept;
     private int putDownInAll;
     // One longer than there are faults, so that a fault is its own index; that of NO_FAULT is never told.
     private final int[] faultsMet = new int[FAULTS + 1];
@@ -163,7 +164,7 @@ public final class RidingYard {
     }
 
     public int book(int i, int what) {
-        if (!within(i, Math.min(putDownInAll, MOST_PUT_DOWN))) {
+        if (!within(i, putDownKept)) {
             return BAD;
         }
         switch (what) {
@@ -264,9 +265,11 @@ public final class RidingYard {
     }
 
     private void putDown(int taskNumber, int fault) {
-        if (putDownInAll < MOST_PUT_DOWN) {
-            tasksPutDown[putDownInAll] = taskNumber;
-            faultsPutDown[putDownInAll] = fault;
+        // An index of its own: the count of all wraps in the end, and would then be no place in the rows.
+        if (putDownKept < MOST_PUT_DOWN) {
+            tasksPutDown[putDownKept] = taskNumber;
+            faultsPutDown[putDownKept] = fault;
+            putDownKept++;
         }
         putDownInAll++;
     }

@@ -13,6 +13,7 @@ public final class ActsTest {
         teamWorks();
         ledgers();
         tables();
+        tableSizes();
         alarms();
         namesModulo();
         cameStays();
@@ -239,8 +240,21 @@ public final class ActsTest {
             Due.fails(x, Due.SIZE, 15, 0, size[0], size[1]);
             Due.fails(x, Due.NONE, 16, 0, 0, 0);
         }
+        x.act(15, 0, 2, 2);
+        x.act(16, 0, 1, 1);
+        Due.fails(x, Due.SIZE, 15, 0, 2, -1);
+        Due.comes(x, 2, 16, 0, 1, 1);
+        x.tear(0, 1);
+        Due.fails(x, Due.NONE, 16, 0, 1, 1);
+        Due.fails(x, Due.NONE, 16, 0, 1, 2);
+        Due.fails(x, Due.NONE, 16, 0, 1, -1);
+        Due.fails(x, Due.PLACE, 16, 0, 2, 0);
+    }
+
+    private static void tableSizes() {
         int[][] sizes = {{6, 6}, {2, 3}, {3, 2}, {7, 1}, {1, 7}, {Due.MAX, Due.MAX}, {0, 3}, {3, 0}, {0, 0}};
         for (int[] size : sizes) {
+            RidingYard x = new RidingYard();
             Due.comes(x, 1, 15, 0, size[0], size[1]);
             int rows = Math.min(size[0], 6);
             int ints = Math.min(size[1], 6);
@@ -255,15 +269,6 @@ public final class ActsTest {
             Due.fails(x, Due.PLACE, 16, 0, rows, 0);
             Due.fails(x, Due.PLACE, 16, 0, -1, 0);
         }
-        x.act(15, 0, 2, 2);
-        x.act(16, 0, 1, 1);
-        Due.fails(x, Due.SIZE, 15, 0, 2, -1);
-        Due.comes(x, 2, 16, 0, 1, 1);
-        x.tear(0, 1);
-        Due.fails(x, Due.NONE, 16, 0, 1, 1);
-        Due.fails(x, Due.NONE, 16, 0, 1, 2);
-        Due.fails(x, Due.NONE, 16, 0, 1, -1);
-        Due.fails(x, Due.PLACE, 16, 0, 2, 0);
     }
 
     private static void alarms() {

@@ -2,8 +2,10 @@ import java.util.Random;
 
 /** All promises at once: long runs of calls, ordinary and wrong ones, against ModelYard. The seeds are fixed. */
 public final class ModelTest {
-    private static final int YARDS = 2000;
-    private static final int CALLS = 512;
+    private static final int YARDS = 6000;
+    /** What a yard answers to later calls is free. */
+    private static final int MOST_CALLS = 512;
+    private static final int CALLS_AT_ONCE = 3;
     private static final int[] EDGES = {Due.MIN, Due.MIN + 1, Due.MAX, Due.MAX - 1, -1, 12, 20, 60, 1 << 30};
 
     private final Random random;
@@ -25,7 +27,7 @@ public final class ModelTest {
         int[][] met = new int[18][7];
         for (int seed = 0; seed < YARDS; seed++) {
             ModelTest test = new ModelTest(seed);
-            for (int i = 0; i < CALLS && !test.parted; i++) {
+            while (test.calls + CALLS_AT_ONCE <= MOST_CALLS && !test.parted) {
                 test.call(met);
             }
         }
@@ -68,7 +70,6 @@ public final class ModelTest {
     }
 
     private void call(int[][] met) {
-        calls++;
         int what = random.nextInt(40);
         if (what < 14) {
             actCall(met);
@@ -90,7 +91,7 @@ public final class ModelTest {
         if (due != Due.BAD) {
             met[n[0]][due == 1 ? 0 : -10 - due]++;
         }
-        due("act" + text(n), yard.act(n[0], n[1], n[2], n[3]), due);
+        due(Calls.text("act", n), yard.act(n[0], n[1], n[2], n[3]), due);
     }
 
     private void makeCall() {
@@ -98,17 +99,17 @@ public final class ModelTest {
         switch (random.nextInt(tidiness + 4)) {
             case 0:
                 int sort = number(6);
-                due("empty" + text(sort, n[0]), yard.empty(sort, n[0]), model.empty(sort, n[0]));
+                due(Calls.text("empty", sort, n[0]), yard.empty(sort, n[0]), model.empty(sort, n[0]));
                 break;
             case 1:
                 int table = number(4);
-                due("tear" + text(table, n[1]), yard.tear(table, n[1]), model.tear(table, n[1]));
+                due(Calls.text("tear", table, n[1]), yard.tear(table, n[1]), model.tear(table, n[1]));
                 break;
-            case 2: due("wagon" + text(n[1], n[3]), yard.wagon(n[1], n[3]), model.wagon(n[1], n[3])); break;
-            case 3: due("hang" + text(n[1], n[3]), yard.hang(n[1], n[3]), model.hang(n[1], n[3])); break;
-            case 4: due("lead" + text(n[0], n[1]), yard.lead(n[0], n[1]), model.lead(n[0], n[1])); break;
+            case 2: due(Calls.text("wagon", n[1], n[3]), yard.wagon(n[1], n[3]), model.wagon(n[1], n[3])); break;
+            case 3: due(Calls.text("hang", n[1], n[3]), yard.hang(n[1], n[3]), model.hang(n[1], n[3])); break;
+            case 4: due(Calls.text("lead", n[0], n[1]), yard.lead(n[0], n[1]), model.lead(n[0], n[1])); break;
             default:
-                due("horse" + text(n[0], n[2], n[3]), yard.horse(n[0], n[2], n[3]),
+                due(Calls.text("horse", n[0], n[2], n[3]), yard.horse(n[0], n[2], n[3]),
                     model.horse(n[0], n[2], n[3]));
                 break;
         }
@@ -122,7 +123,7 @@ public final class ModelTest {
             due("day()", yard.day(), model.day());
         } else {
             int[] n = actNumbers();
-            due("task" + text(n), yard.task(n[0], n[1], n[2], n[3]), model.task(n[0], n[1], n[2], n[3]));
+            due(Calls.text("task", n), yard.task(n[0], n[1], n[2], n[3]), model.task(n[0], n[1], n[2], n[3]));
         }
     }
 
@@ -132,31 +133,26 @@ public final class ModelTest {
         int i = number(42);
         int two = number(2);
         switch (random.nextInt(5)) {
-            case 0: due("book" + text(i, two), yard.book(i, two), model.book(i, two)); break;
-            case 1: due("shed" + text(k), yard.shed(k), model.shed(k)); break;
+            case 0: due(Calls.text("book", i, two), yard.book(i, two), model.book(i, two)); break;
+            case 1: due(Calls.text("shed", k), yard.shed(k), model.shed(k)); break;
             case 2:
                 int other = number(10);
-                due("same" + text(stall, other), yard.same(stall, other), model.same(stall, other));
+                due(Calls.text("same", stall, other), yard.same(stall, other), model.same(stall, other));
                 break;
             case 3:
                 int what = number(12);
-                due("count" + text(what), yard.count(what), model.count(what));
+                due(Calls.text("count", what), yard.count(what), model.count(what));
                 break;
-            default: due("horseTells" + text(stall, k), yard.horseTells(stall, k), model.horseTells(stall, k)); break;
+            default:
+                due(Calls.text("horseTells", stall, k), yard.horseTells(stall, k), model.horseTells(stall, k));
+                break;
         }
     }
 
     /** Once the two have parted, all that follows differs, too, and tells nothing more. */
     private void due(String call, int got, int want) {
+        calls++;
         parted |= got != want;
         Due.due("seed " + seed + ", call " + calls + ": " + call, got, want);
-    }
-
-    private static String text(int... n) {
-        StringBuilder text = new StringBuilder("(");
-        for (int i = 0; i < n.length; i++) {
-            text.append(i == 0 ? "" : ", ").append(n[i]);
-        }
-        return text.append(")").toString();
     }
 }
