@@ -466,6 +466,8 @@ public final class ActEdgesTest {
         Due.comes(x, Due.MIN, 14, 3, 0, 0);
         x.act(13, 3, 5, Due.MIN);
         Due.comes(x, 0, 14, 3, 0, 0);
+        x.act(13, 3, 1, -5);
+        Due.comes(x, -5, 14, 3, 0, 0);
         x.empty(3, 3);
         Due.fails(x, Due.NONE, 14, 3, 0, 0);
     }

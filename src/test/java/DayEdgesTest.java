@@ -84,8 +84,9 @@ public final class DayEdgesTest {
         Due.sentence("Terms: each an ACT with a, b, c");
         RidingYard x = new RidingYard();
         x.act(12, 3, 12, 0);
+        int[] namesOfLedger3 = {3, -1, 11, Due.MAX};
         for (int i = 0; i < 20; i++) {
-            x.task(13, i == 19 ? Due.MAX : 3, i % 12, i == 19 ? Due.MIN : 100 + i);
+            x.task(13, namesOfLedger3[i % 4], i % 12, i == 19 ? Due.MIN : 100 + i);
         }
         Due.answers(x, 20, "day");
         for (int i = 0; i < 12; i++) {

@@ -273,6 +273,8 @@ public final class TermsEdgesTest {
         Due.comes(x, 0, 4, 0, 0, 0);
         Due.comes(x, Due.MAX, 4, 0, 1, 0);
         Due.comes(x, -2, 4, 0, 1, 0);
+        x.wagon(0, -1);
+        Due.comes(x, -1, 4, 0, 1, 0);
         x.wagon(0, Due.MIN);
         Due.comes(x, 0, 4, 0, 0, 0);
         Due.comes(x, Due.MIN, 4, 0, 1, 0);

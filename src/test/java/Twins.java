@@ -68,7 +68,7 @@ final class Twins {
             x.hang(5, i);
         }
         for (int i = 4; i < 20; i++) {
-            x.task(i % 4, i, 1, 0);
+            x.task(0, i % 9, i, 0);
         }
         return x;
     }
