@@ -12,6 +12,7 @@ public final class ActEdgesTest {
         raisedFault();
         doneAheadOfFaultStays();
         nothingElseIsDone();
+        actsZeroToSeventeen();
         act0Fed();
         act1Strength();
         act2Rug();
@@ -196,6 +197,33 @@ public final class ActEdgesTest {
             {Due.NONE, 17, 1, 0, 0}, {Due.RAISED, 17, 0, 0, 0}};
         for (int[] f : faulty) {
             Twins.leaves(f[0], f[1], f[2], f[3], f[4]);
+        }
+    }
+
+    private static void actsZeroToSeventeen() {
+        Due.sentence("Terms: ACTS, with a, b, c; what they come to (ACT 0 .. 17)");
+        for (int act = 0; act <= 17; act++) {
+            RidingYard x = new RidingYard();
+            Due.answers(x, act == 7 || act == 12 || act == 15 ? 1 : Due.NONE, "act", act, 0, 0, 0);
+            Due.answers(x, 1, "task", act, 0, 0, 0);
+        }
+        RidingYard x = new RidingYard();
+        for (int none : new int[] {-1, 18}) {
+            Due.answers(x, Due.BAD, "act", none, 0, 0, 0);
+            Due.answers(x, Due.BAD, "task", none, 0, 0, 0);
+        }
+        // A number that an act has no use for may be any.
+        x.horse(0, 2, 6);
+        x.lead(0, 0);
+        for (int any : new int[] {Due.MIN, -1, Due.MAX}) {
+            Due.comes(x, 6, 1, 0, any, any);
+            Due.comes(x, 6, 5, 0, any, any);
+            Due.comes(x, 0, 6, 0, any, any);
+            Due.comes(x, 5, 12, 0, 5, any);
+            Due.comes(x, 0, 14, 0, any, any);
+            Due.comes(x, 0, 7, 0, 0, 0);
+            Due.comes(x, 0, 10, 0, any, any);
+            Due.comes(x, 0, 11, 0, any, any);
         }
     }
 

@@ -13,7 +13,7 @@ public final class NeverThrowsTest {
     public static void main(String[] args) {
         moreFaultsThanAnIntCounts();
         anyArguments();
-        Due.end();
+        System.out.println("nothing was thrown");
     }
 
     private static void anyArguments() {
