@@ -10,7 +10,7 @@ import java.util.regex.Pattern;
 import java.util.stream.Collectors;
 import java.util.stream.Stream;
 
-/** What README.md tells of the class and of its tests is true. It is run from the top of the checkout, as .ci/run is. */
+/** What README.md tells of the class and its tests is true. It is run from the top of the checkout, by .ci/run too. */
 public final class ReadmeTest {
     private static final Pattern EXAMPLE = Pattern.compile("yard\\.(\\w+)\\(([^)]*)\\); +// (-?\\d+|[A-Z]+): .*");
     private static final Pattern CALL_ROW = Pattern.compile("\\| `(\\w+)\\(([^)]*)\\)` \\| (\\d+) \\| .*");
